@@ -1166,24 +1166,20 @@ public final class WalkingStreets {
             tryAllBehind(0, carts, 0, 0, night.widthOfAll());
         }
 
-        /**
-         * Tries all that may follow so many that stand already, up to the cell from. If one of
-         * those left finds room, no order in which another one is out there is as good.
-         */
+        /** Tries all that may follow so many that stand already, ahead of the cell from. */
         private void tryAllBehind(int depth, int left, int from, int nearThen, int widthLeft) {
             if (isHopeless(nearThen, from + widthLeft - 1)) {
                 return;
             }
-            boolean more = false;
             for (int c = 0; c < told.carts && depth < MOST_CARTS; c++) {
                 int first = (left >> c & 1) == 1 ? room.firstFor(night.axle[c], from) : NONE;
                 if (first != NONE) {
-                    more = true;
                     firsts[c] = first;
                     tryBehind(depth, left, c, nearThen, widthLeft);
                 }
             }
-            if (!more && isBetter(depth, nearThen, from - 1)) {
+            // If one more found room, more stand in the best one known: this is better only if none did.
+            if (isBetter(depth, nearThen, from - 1)) {
                 take(depth, left, nearThen, from - 1);
             }
         }
@@ -1246,7 +1242,7 @@ public final class WalkingStreets {
 
         /** How many; more than MOST_BRIDGES if it can't be done. */
         private int search(Night night, int cells) {
-            int many = fewest(night, night.rivers, 0, cells);
+            int many = fewest(night, night.rivers, cells);
             if (many > MOST_BRIDGES) {
                 return many;
             }
@@ -1254,7 +1250,7 @@ public final class WalkingStreets {
             int found = 0;
             for (int k = 0; k < cells && found < many; k++) {
                 long bridged = rivers & ~(1L << k);
-                if (bridged != rivers && fewest(night, bridged, k + 1, cells) < many - found) {
+                if (bridged != rivers && fewest(night, bridged, cells) < many - found) {
                     chosen[found] = k;
                     found++;
                     rivers = bridged;
@@ -1263,8 +1259,8 @@ public final class WalkingStreets {
             return many;
         }
 
-        /** How many rivers have to be bridged, none of them ahead of the cell from. */
-        private int fewest(Night night, long rivers, int from, int cells) {
+        /** How many of these rivers have to be bridged. */
+        private int fewest(Night night, long rivers, int cells) {
             for (int k = 0; k <= cells; k++) {
                 neededBehind[k] = 0;
             }
@@ -1273,7 +1269,7 @@ public final class WalkingStreets {
                 for (int k = cells; k >= 0; k--) {
                     int here = TOO_MANY;
                     if (k + width <= cells) {
-                        here = Math.min(cost(rivers, from, k, width) + neededBehind[k + width], needed[k + 1]);
+                        here = Math.min(riversIn(rivers, k, width) + neededBehind[k + width], needed[k + 1]);
                     }
                     needed[k] = Math.min(here, TOO_MANY);
                 }
@@ -1284,14 +1280,8 @@ public final class WalkingStreets {
             return neededBehind[0];
         }
 
-        private static int cost(long rivers, int from, int cell, int width) {
-            int sum = 0;
-            for (int k = cell; k < cell + width; k++) {
-                if ((rivers >> k & 1) == 1) {
-                    sum += k < from ? TOO_MANY : 1;
-                }
-            }
-            return sum;
+        private static int riversIn(long rivers, int cell, int width) {
+            return Long.bitCount(rivers >> cell & (1L << width) - 1);
         }
     }
 }

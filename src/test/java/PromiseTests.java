@@ -35,6 +35,7 @@ final class PromiseTests {
         tests.undoOfEach();
         tests.now();
         tests.nowOfSomeOut();
+        tests.setUpOfWidths();
         tests.order();
         tests.between();
         tests.windward();
@@ -454,6 +455,7 @@ final class PromiseTests {
         WalkingStreets z = Checks.town("c1 1;");
         z.loses(0, 1);
         due("storm of none", z.storm(), NONE);
+        due("storm of one", Checks.town("c1 1;").storm(), 0);
         due("it may be undone", z.count(5), 2);
     }
 
@@ -556,8 +558,23 @@ final class PromiseTests {
         due("no more", y.undo(), STATE);
         y.storm();
         due("undo of the one after", y.undo(), 0);
+        undoOfTwelve();
         due("what is asked, seen, marked is not undone", y.saw(0, 1) + y.mark(0, 0) + y.keep(0), 5);
         due("so nothing is to undo", y.undo(), STATE);
+    }
+
+    private void undoOfTwelve() {
+        WalkingStreets x = Checks.town("c1 1;c1 1;c1 1;c1 1;c1 1;");
+        String[] rows = new String[13];
+        for (int i = 0; i < 12; i++) {
+            rows[i] = row(x);
+            x.pin(i * 3 % 5 == x.order(4) ? x.order(1) : i * 3 % 5);
+        }
+        for (int i = 11; i >= 2; i--) {
+            due("undo of the " + i + "th", x.undo(), i - 2);
+            same("as ahead of the " + i + "th", row(x), rows[i]);
+        }
+        due("the first two are lost", x.undo(), STATE);
     }
 
     private void undoOfEach() {
@@ -627,6 +644,10 @@ final class PromiseTests {
         y.floods(4, 1);
         y.floods(3, 1);
         due("a hill that is flooded is none", y.now(4), 2);
+        WalkingStreets z = Checks.town("c2 1;c1 1;gfhhfh;");
+        due("each on a hill", z.now(4), 3);
+        z.pin(0);
+        due("not on the hill right behind", z.now(4), 1);
     }
 
     private void nowOfSomeOut() {
@@ -651,6 +672,19 @@ final class PromiseTests {
         due("as many between as APART is not near", y.now(3), 0);
         y.floods(2, 0);
         due("one fewer is near", y.now(3), 1);
+    }
+
+    /** The first cell of one cart alone, or NONE, for each width. */
+    private void setUpOfWidths() {
+        for (int width = 1; width <= 6; width++) {
+            String cart = "c" + width + " 1;";
+            String room = "f".repeat(width);
+            String less = "f".repeat(width - 1);
+            due("no room for " + width, Checks.town(cart + "g" + less + "r" + less + ";").cart(0, 5), NONE);
+            due("room for " + width, Checks.town(cart + "g" + less + "r" + room + ";").cart(0, 5), width);
+            due("just room for " + width, Checks.town(cart + "g" + room + ";").cart(0, 5), 0);
+            due("too few cells for " + width, Checks.town(cart + "gr" + less + ";").cart(0, 5), NONE);
+        }
     }
 
     // Promise 17
@@ -743,8 +777,12 @@ final class PromiseTests {
         x.floods(2, 1);
         same("on the ground as it is now", bestRow(x), "021");
         due("the last cell now", x.best(-3), 3);
+        WalkingStreets low = Checks.town("c2 1;c1 1;gfrfff;");
+        same("the last cell is one lower", bestRow(low), "10");
+        due("all stand either way", low.best(-1), 2);
+        due("it is", low.best(-3), 3);
         WalkingStreets y = Checks.town("c2 1;c1 1;gfrff;");
-        same("the last cell is lower so", bestRow(y), "10");
+        same("one more stands so", bestRow(y), "10");
         due("that is", y.best(-3), 3);
         y.widens(1);
         same("as wide as now", bestRow(y), "01");
@@ -966,6 +1004,7 @@ final class PromiseTests {
         oddsAre(x, 0, 1, 3, 21, 100);
         oddsAre(x, 1, 0, 3, 21, 100);
         oddsAre(x, 1, 1, 5, 3, 4);
+        oddsAre(x, 0, 0, 1, 91, 100);
         oddsAre(x, 0, 0, 0, 1, 1);
         oddsAre(x, 1, 0, 0, 0, 1);
         oddsAre(x, 0, 0, 10, 1, 1);
@@ -1105,6 +1144,19 @@ final class PromiseTests {
         due("undo of the image", x.undo(), 4);
         due("back twice", x.back(0), 2);
         same("the order again", row(x), "12");
+        WalkingStreets y = Checks.town("c1 1;c1 1;c1 1;");
+        y.pin(0);
+        y.storm();
+        y.keep(1);
+        y.undo();
+        y.undo();
+        y.storm();
+        y.widens(0);
+        y.back(1);
+        due("undo of what was kept", y.undo(), 1);
+        same("as ahead of STORM", row(y), "120");
+        due("undo of the oldest that was kept", y.undo(), 0);
+        same("as ahead of PIN", row(y), "012");
     }
 
     // Promise 31
