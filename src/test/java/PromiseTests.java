@@ -36,6 +36,7 @@ final class PromiseTests {
         tests.now();
         tests.nowOfSomeOut();
         tests.setUpOfWidths();
+        tests.fullTown();
         tests.order();
         tests.between();
         tests.windward();
@@ -270,6 +271,13 @@ final class PromiseTests {
         fault("g", 1);
         fault("gff", 3);
         fault("gff ", 4);
+        WalkingStreets x = new WalkingStreets();
+        Checks.type(x, "c1 15;");
+        x.clear();
+        Checks.type(x, "c1 1");
+        due("what was typed ahead of clear is not read", x.town(), -14);
+        Checks.type(x, " ".repeat(175) + "1");
+        due("180 bytes, a number last", x.town(), -10 - 179);
     }
 
     private void townReadAnew() {
@@ -687,6 +695,35 @@ final class PromiseTests {
         }
     }
 
+    /** As many carts and cells as there may be. */
+    private void fullTown() {
+        String carts = "c1 1;c2 2;c3 3;c4 4;c5 5;c6 6;c1 7;";
+        WalkingStreets x = Checks.town(carts + "q0 6;q5 6;d9;m60;g" + "f".repeat(39) + "h;");
+        same("cells", cells(x), "0 1 3 6 10 15 21");
+        due("takes(39)", x.takes(39), NONE);
+        int[] want = {7, 0, 0, 1, 0, 21, 22, 0};
+        for (int what = 0; what < want.length; what++) {
+            due("now(" + what + ") of seven", x.now(what), want[what]);
+        }
+        same("BEST of seven", bestRow(x), "0125346");
+        due("nobody near", x.best(-2), 0);
+        soonIs(x, 20, 5, "2345601");
+        due("dark of seven", x.dark(59), 0);
+        due("ropes of seven", x.ropes(0), 0);
+        due("who of seven", x.who(), 255);
+        x.widens(6);
+        for (int c = 0; c < 7; c++) {
+            x.late(c, 1);
+        }
+        due("nine of seven", x.nine(), 7);
+        due("keep of seven", x.keep(0), 7);
+        due("storm of seven", x.storm(), 6);
+        due("the last cell of 40", x.floods(39, 1), 2);
+        due("back to seven", x.back(0), 7);
+        due("lost of seven", x.loses(6, 1), 6);
+        due("found of seven", x.loses(6, 0), 7);
+    }
+
     // Promise 17
     private void order() {
         WalkingStreets x = Checks.town(THREE);
@@ -710,6 +747,7 @@ final class PromiseTests {
         due("between(1, 2)", x.between(1, 2), 0);
         due("between(0, 2)", x.between(0, 2), 2);
         due("between(2, 0)", x.between(2, 0), 2);
+        due("between(2, 1)", x.between(2, 1), 0);
         due("between(0, 0)", x.between(0, 0), BAD);
         due("between(0, 3)", x.between(0, 3), BAD);
         due("between(3, 0)", x.between(3, 0), BAD);
@@ -812,6 +850,14 @@ final class PromiseTests {
         same("a feud on both sides", bestRow(y), "012");
         due("one is near at least", y.best(-2), 1);
         same("as it is seen again", bestRow(y), "012");
+        y.loses(2, 1);
+        same("without the last one", bestRow(y), "01");
+        due("two stand without it", y.best(-1), 2);
+        due("no third one", y.best(2), NONE);
+        y.loses(2, 0);
+        y.loses(0, 1);
+        same("without the first one", bestRow(y), "12");
+        due("two stand without that", y.best(-1), 2);
         WalkingStreets z = Checks.town("c1 1;c2 1;q0 1;d9;gfrff;");
         due("the whole order by numbers", z.best(0), 0);
         z.pin(0);
@@ -849,6 +895,8 @@ final class PromiseTests {
         ropesAre(y, 1, 1, NONE, NONE);
         y.floods(2, 1);
         ropesAre(y, 2, 0, 1, NONE);
+        y.loses(0, 1);
+        ropesAre(y, 0, NONE, NONE, NONE);
         String far = "c6 1;c6 1;g" + "r".repeat(3) + "f".repeat(9) + "r".repeat(28) + ";";
         ropesAre(Checks.town(far), 3, 0, 1, 2);
         String later = "c6 1;c6 1;g" + "r".repeat(20) + "f".repeat(5) + "r".repeat(7) + "f".repeat(4) + "rrrr;";
@@ -1157,6 +1205,18 @@ final class PromiseTests {
         same("as ahead of STORM", row(y), "120");
         due("undo of the oldest that was kept", y.undo(), 0);
         same("as ahead of PIN", row(y), "012");
+        y.back(1);
+        for (int i = 0; i < 12; i++) {
+            y.pin(y.order(0));
+        }
+        y.keep(0);
+        due("back to what was kept long ago", y.back(1), 3);
+        due("undo of that", y.undo(), 1);
+        due("undo of its oldest", y.undo(), 0);
+        same("as ahead of its oldest", row(y), "012");
+        due("back to a full past", y.back(0), 3);
+        due("ten may be undone", y.count(5), 10);
+        due("nine then", y.undo(), 9);
     }
 
     // Promise 31
