@@ -878,7 +878,10 @@ final class PromiseTests {
         ropesAre(x, 0, NONE, NONE, NONE);
         ropesAre(Checks.town("c3 1;gfrrrf;"), 2, 1, 2, NONE);
         ropesAre(Checks.town("c4 1;gfrrrf;"), 3, 1, 2, 3);
-        ropesAre(Checks.town("c5 1;gfrrrrf;"), NONE, NONE, NONE, NONE);
+        WalkingStreets wide = Checks.town("c5 1;gfrrrrf;");
+        ropesAre(wide, NONE, NONE, NONE, NONE);
+        wide.loses(0, 1);
+        ropesAre(wide, 0, NONE, NONE, NONE);
         ropesAre(Checks.town("c1 1;"), NONE, NONE, NONE, NONE);
         ropesAre(Checks.town("c1 1;grr;"), 1, 0, NONE, NONE);
         ropesAre(Checks.town("c2 1;c2 1;grfffr;"), 1, 0, NONE, NONE);
