@@ -16,6 +16,8 @@ public final class WalkingStreets {
     private static final int MOST_MILES = 60;
     private static final int MOST_HOURS = 60;
     private static final int TENTHS = 10;
+    /** Far more than a common divisor of two ints takes. */
+    private static final int MOST_STEPS = 1000;
     private static final int NOBODY = 128;
     private static final int FLAT = 0, HILL = 1, RIVER = 2;
     private static final int CART = 0, CHURCH = 1, BAKER = 2, MILL = 3, DYER = 4, GUEST = 5;
@@ -644,7 +646,7 @@ public final class WalkingStreets {
     private static int commonDivisor(int one, int other) {
         int a = one;
         int b = other;
-        while (b > 0) {
+        for (int step = 0; step < MOST_STEPS && b > 0; step++) {
             int rest = a % b;
             a = b;
             b = rest;
@@ -913,7 +915,7 @@ public final class WalkingStreets {
                 return;
             }
             value = bytes[at];
-            if (isDigit(value)) {
+            if (value >= '0' && value <= '9') {
                 readDigits();
                 return;
             }
@@ -927,17 +929,15 @@ public final class WalkingStreets {
 
         private void readDigits() {
             value = 0;
-            while (at < length && isDigit(bytes[at])) {
-                // Kept small: a row of digits may be far longer than an int holds.
-                value = Math.min(value * 10 + bytes[at] - '0', LARGEST + 1);
+            while (at < length && bytes[at] >= '0' && bytes[at] <= '9') {
+                // One too large stays as it is: a row of digits may be far longer than an int holds.
+                if (value <= LARGEST) {
+                    value = value * 10 + bytes[at] - '0';
+                }
                 at++;
             }
             boolean zeroAhead = bytes[start] == '0' && at - start > 1;
             kind = zeroAhead || value > LARGEST ? BROKEN : NUMBER;
-        }
-
-        private static boolean isDigit(int b) {
-            return b >= '0' && b <= '9';
         }
     }
 

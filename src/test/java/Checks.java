@@ -1,5 +1,8 @@
 /** Compares answers with those that are due, and counts those that differ. */
 final class Checks {
+    /** Numbers that are far from all that any call takes. */
+    static final int[] FAR = {Integer.MIN_VALUE, -1000000, -100, Integer.MAX_VALUE, 1000, 256};
+
     private int made;
     private int wrong;
 
@@ -8,6 +11,14 @@ final class Checks {
         if (got != want) {
             wrong++;
             System.out.println(call + " answered " + got + ", due is " + want);
+        }
+    }
+
+    void same(String what, String got, String want) {
+        made++;
+        if (!got.equals(want)) {
+            wrong++;
+            System.out.println(what + " is " + got + ", due is " + want);
         }
     }
 
@@ -35,5 +46,33 @@ final class Checks {
         type(x, text);
         x.town();
         return x;
+    }
+
+    /** The order's carts as digits, the first one ahead. */
+    static String row(WalkingStreets x) {
+        StringBuilder text = new StringBuilder();
+        for (int i = 0; i < x.now(0); i++) {
+            text.append(x.order(i));
+        }
+        return text.toString();
+    }
+
+    /** The best order's carts as digits. */
+    static String bestRow(WalkingStreets x) {
+        StringBuilder text = new StringBuilder();
+        for (int i = 0; i < x.now(0); i++) {
+            text.append(x.best(i));
+        }
+        return text.toString();
+    }
+
+    /** The cells of the carts, NONE as a minus. */
+    static String cells(WalkingStreets x) {
+        StringBuilder text = new StringBuilder();
+        for (int c = 0; c < x.count(0); c++) {
+            int cell = x.cart(c, 5);
+            text.append(cell == WalkingStreets.NONE ? "-" : String.valueOf(cell)).append(' ');
+        }
+        return text.toString().trim();
     }
 }

@@ -5,7 +5,7 @@ final class PromiseTests {
     private static final int FULL = WalkingStreets.FULL;
     private static final int NONE = WalkingStreets.NONE;
     private static final int NO = WalkingStreets.NO;
-    private static final int[] FAR = {Integer.MIN_VALUE, -1000000, -100, Integer.MAX_VALUE, 1000, 256};
+    private static final int[] FAR = Checks.FAR;
 
     /** Cells 0..9: f f r f f h r f f f; cart 0 takes 0..1, cart 1 takes 3, cart 2 takes 4..5. */
     private static final String THREE = "c2 3;c1 9;c2 2;q0 1;q2 1;d2;m20;gffrffhrfff;";
@@ -61,35 +61,8 @@ final class PromiseTests {
         checks.due(call, got, want);
     }
 
-    /** The order's carts as digits, the first one ahead. */
-    private static String row(WalkingStreets x) {
-        StringBuilder text = new StringBuilder();
-        for (int i = 0; i < x.now(0); i++) {
-            text.append(x.order(i));
-        }
-        return text.toString();
-    }
-
-    private static String bestRow(WalkingStreets x) {
-        StringBuilder text = new StringBuilder();
-        for (int i = 0; i < x.now(0); i++) {
-            text.append(x.best(i));
-        }
-        return text.toString();
-    }
-
-    /** The cells of the carts, NONE as a minus. */
-    private static String cells(WalkingStreets x) {
-        StringBuilder text = new StringBuilder();
-        for (int c = 0; c < x.count(0); c++) {
-            int cell = x.cart(c, 5);
-            text.append(cell == NONE ? "-" : String.valueOf(cell)).append(' ');
-        }
-        return text.toString().trim();
-    }
-
     private void same(String what, String got, String want) {
-        checks.holds(what + " is " + got + ", due is " + want, got.equals(want));
+        checks.same(what, got, want);
     }
 
     // Promise 1
@@ -293,8 +266,8 @@ final class PromiseTests {
         x.mark(0, 0);
         Checks.type(x, "c3 1;c1 1;c2 2;gfffffff;");
         due("town anew", x.town(), 4);
-        same("the order anew", row(x), "012");
-        same("cells anew", cells(x), "0 3 4");
+        same("the order anew", Checks.row(x), "012");
+        same("cells anew", Checks.cells(x), "0 3 4");
         due("an axle anew", x.cart(0, 0), 3);
         due("nobody is late anew", x.now(7), 0);
         due("no feud anew", x.cart(0, 4), 0);
@@ -384,7 +357,7 @@ final class PromiseTests {
         due("late(1, 1) again", x.late(1, 1), STATE);
         due("who is late", x.now(7), 2);
         due("late(2, 1)", x.late(2, 1), NONE);
-        same("gaps are kept", cells(x), "0 - -");
+        same("gaps are kept", Checks.cells(x), "0 - -");
         due("late(1, 0)", x.late(1, 0), 3);
         due("late(1, 0) again", x.late(1, 0), STATE);
         due("who is late then", x.now(7), 4);
@@ -409,27 +382,27 @@ final class PromiseTests {
     private void nine() {
         WalkingStreets x = Checks.town("c1 1;c2 1;c1 1;c1 1;gffffffff;");
         due("nobody is late at nine", x.nine(), 0);
-        same("the order stays", row(x), "0123");
+        same("the order stays", Checks.row(x), "0123");
         due("it may be undone all the same", x.count(5), 1);
         x.late(2, 1);
         x.late(0, 1);
         due("nine", x.nine(), 2);
-        same("the late ones are behind, as they were", row(x), "1302");
+        same("the late ones are behind, as they were", Checks.row(x), "1302");
         due("nobody is late then", x.now(7), 0);
-        same("they take cells then", cells(x), "3 0 4 2");
+        same("they take cells then", Checks.cells(x), "3 0 4 2");
         for (int c = 0; c < 4; c++) {
             x.late(c, 1);
         }
         due("all late", x.nine(), 4);
-        same("all behind none", row(x), "1302");
+        same("all behind none", Checks.row(x), "1302");
     }
 
     // Promise 10
     private void pin() {
         WalkingStreets x = Checks.town(THREE);
         due("pin(0)", x.pin(0), 7);
-        same("the order after a pin", row(x), "120");
-        same("cells after a pin", cells(x), "7 0 3");
+        same("the order after a pin", Checks.row(x), "120");
+        same("cells after a pin", Checks.cells(x), "7 0 3");
         due("pin of the last one", x.pin(0), STATE);
         due("pin(3)", x.pin(3), BAD);
         due("pin(-1)", x.pin(-1), BAD);
@@ -441,7 +414,7 @@ final class PromiseTests {
         due("pin of a lost one", x.pin(2), STATE);
         x.late(1, 1);
         due("pin of a late one", x.pin(1), NONE);
-        same("a late one goes behind", row(x), "01");
+        same("a late one goes behind", Checks.row(x), "01");
         due("and is late still", x.now(7), 2);
         WalkingStreets y = Checks.town("c2 1;c2 1;gff;");
         due("pin of one that is out then", y.pin(0), NONE);
@@ -454,12 +427,12 @@ final class PromiseTests {
         WalkingStreets x = Checks.town(THREE);
         x.late(0, 1);
         due("storm", x.storm(), 2);
-        same("turned about", row(x), "210");
+        same("turned about", Checks.row(x), "210");
         due("who is late stays late", x.now(7), 1);
         due("storm again", x.storm(), 0);
         WalkingStreets y = Checks.town("c1 1;c1 1;c1 1;c1 1;gffff;");
         due("storm of four", y.storm(), 3);
-        same("four turned about", row(y), "3210");
+        same("four turned about", Checks.row(y), "3210");
         WalkingStreets z = Checks.town("c1 1;");
         z.loses(0, 1);
         due("storm of none", z.storm(), NONE);
@@ -471,9 +444,9 @@ final class PromiseTests {
     private void widens() {
         WalkingStreets x = Checks.town("c4 1;c1 1;gffffff;");
         due("widens(0)", x.widens(0), 5);
-        same("the one behind has moved", cells(x), "0 5");
+        same("the one behind has moved", Checks.cells(x), "0 5");
         due("widens(0) to 6", x.widens(0), 6);
-        same("the one behind is out", cells(x), "0 -");
+        same("the one behind is out", Checks.cells(x), "0 -");
         due("widens(0) at 6", x.widens(0), STATE);
         due("not undone", x.count(5), 2);
         due("its axle", x.cart(0, 0), 6);
@@ -492,7 +465,7 @@ final class PromiseTests {
     private void floods() {
         WalkingStreets x = Checks.town(THREE);
         due("flood of a flat cell", x.floods(0, 1), 2);
-        same("all behind it", cells(x), "3 5 7");
+        same("all behind it", Checks.cells(x), "3 5 7");
         due("flood of a flooded cell", x.floods(0, 1), STATE);
         due("flood of a told river", x.floods(2, 1), STATE);
         due("dry of a flat cell", x.floods(1, 0), STATE);
@@ -526,11 +499,11 @@ final class PromiseTests {
         x.late(0, 1);
         due("loses(0, 1)", x.loses(0, 1), 2);
         due("loses(0, 1) again", x.loses(0, 1), STATE);
-        same("out of the order", row(x), "12");
-        same("no gap is left", cells(x), "- 0 3");
+        same("out of the order", Checks.row(x), "12");
+        same("no gap is left", Checks.cells(x), "- 0 3");
         due("late no more", x.now(7), 0);
         due("found", x.loses(0, 0), 3);
-        same("behind all others", row(x), "120");
+        same("behind all others", Checks.row(x), "120");
         due("and there", x.cart(0, 2), 0);
         due("it takes cells", x.cart(0, 5), 7);
         due("found again", x.loses(0, 0), STATE);
@@ -562,7 +535,7 @@ final class PromiseTests {
         for (int left = 9; left >= 0; left--) {
             due("undo", y.undo(), left);
         }
-        same("the oldest one is lost", row(y), "120");
+        same("the oldest one is lost", Checks.row(y), "120");
         due("no more", y.undo(), STATE);
         y.storm();
         due("undo of the one after", y.undo(), 0);
@@ -575,12 +548,12 @@ final class PromiseTests {
         WalkingStreets x = Checks.town("c1 1;c1 1;c1 1;c1 1;c1 1;");
         String[] rows = new String[13];
         for (int i = 0; i < 12; i++) {
-            rows[i] = row(x);
+            rows[i] = Checks.row(x);
             x.pin(i * 3 % 5 == x.order(4) ? x.order(1) : i * 3 % 5);
         }
         for (int i = 11; i >= 2; i--) {
             due("undo of the " + i + "th", x.undo(), i - 2);
-            same("as ahead of the " + i + "th", row(x), rows[i]);
+            same("as ahead of the " + i + "th", Checks.row(x), rows[i]);
         }
         due("the first two are lost", x.undo(), STATE);
     }
@@ -600,7 +573,7 @@ final class PromiseTests {
         due("undo FOUND", x.undo(), 8);
         due("lost again", x.cart(0, 3), 1);
         due("undo LOST", x.undo(), 7);
-        same("it is where it was", row(x), "012");
+        same("it is where it was", Checks.row(x), "012");
         due("undo dry", x.undo(), 6);
         due("a river again", x.ground(2), 2);
         due("undo FLOOD", x.undo(), 5);
@@ -608,15 +581,15 @@ final class PromiseTests {
         due("undo WIDER", x.undo(), 4);
         due("as wide as told", x.cart(2, 0), 2);
         due("undo STORM", x.undo(), 3);
-        same("not turned about", row(x), "210");
+        same("not turned about", Checks.row(x), "210");
         due("undo PIN", x.undo(), 2);
-        same("as after nine", row(x), "021");
+        same("as after nine", Checks.row(x), "021");
         due("undo NINE", x.undo(), 1);
-        same("as ahead of nine", row(x), "012");
+        same("as ahead of nine", Checks.row(x), "012");
         due("late as ahead of nine", x.now(7), 2);
         due("undo LATE", x.undo(), 0);
         due("there again", x.now(7), 0);
-        same("all cells as at first", cells(x), "0 3 4");
+        same("all cells as at first", Checks.cells(x), "0 3 4");
     }
 
     // Promise 16
@@ -660,7 +633,7 @@ final class PromiseTests {
 
     private void nowOfSomeOut() {
         WalkingStreets x = Checks.town("c2 1;c3 1;c1 1;c1 1;q0 2;q2 3;q0 1;d9;gffrff;");
-        same("the third would fit but is behind one that is out", cells(x), "0 - - -");
+        same("the third would fit but is behind one that is out", Checks.cells(x), "0 - - -");
         due("OUT", x.now(1), 3);
         due("those out break nothing", x.now(2), 0);
         due("those out are near nobody", x.now(3), 0);
@@ -671,8 +644,8 @@ final class PromiseTests {
         x.late(0, 1);
         due("no cell is taken", x.now(5), NONE);
         x.nine();
-        same("who is behind stands now", row(x), "2301");
-        same("cells then", cells(x), "3 - 0 1");
+        same("who is behind stands now", Checks.row(x), "2301");
+        same("cells then", Checks.cells(x), "3 - 0 1");
         due("BREAKS then", x.now(2), 1);
         due("NEAR then", x.now(3), 2);
         due("OUT then", x.now(1), 1);
@@ -699,13 +672,13 @@ final class PromiseTests {
     private void fullTown() {
         String carts = "c1 1;c2 2;c3 3;c4 4;c5 5;c6 6;c1 7;";
         WalkingStreets x = Checks.town(carts + "q0 6;q5 6;d9;m60;g" + "f".repeat(39) + "h;");
-        same("cells", cells(x), "0 1 3 6 10 15 21");
+        same("cells", Checks.cells(x), "0 1 3 6 10 15 21");
         due("takes(39)", x.takes(39), NONE);
         int[] want = {7, 0, 0, 1, 0, 21, 22, 0};
         for (int what = 0; what < want.length; what++) {
             due("now(" + what + ") of seven", x.now(what), want[what]);
         }
-        same("BEST of seven", bestRow(x), "0125346");
+        same("BEST of seven", Checks.bestRow(x), "0125346");
         due("nobody near", x.best(-2), 0);
         soonIs(x, 20, 5, "2345601");
         due("dark of seven", x.dark(59), 0);
@@ -728,7 +701,7 @@ final class PromiseTests {
     private void order() {
         WalkingStreets x = Checks.town(THREE);
         x.storm();
-        same("the order", row(x), "210");
+        same("the order", Checks.row(x), "210");
         due("order(3)", x.order(3), BAD);
         due("order(-1)", x.order(-1), BAD);
         for (int far : FAR) {
@@ -791,7 +764,7 @@ final class PromiseTests {
     // Promise 20
     private void best() {
         WalkingStreets x = Checks.town("c1 1;c1 1;c1 1;q0 1;d1;gffff;");
-        same("the feud is parted", bestRow(x), "021");
+        same("the feud is parted", Checks.bestRow(x), "021");
         due("all stand", x.best(-1), 3);
         due("nobody is near", x.best(-2), 0);
         due("the last cell", x.best(-3), 2);
@@ -802,61 +775,61 @@ final class PromiseTests {
         for (int far : FAR) {
             due("best(" + far + ")", x.best(far), BAD);
         }
-        same("nothing is changed", row(x), "012");
+        same("nothing is changed", Checks.row(x), "012");
         x.late(2, 1);
         x.storm();
-        same("late ones count as there, whatever the order", bestRow(x), "021");
+        same("late ones count as there, whatever the order", Checks.bestRow(x), "021");
         x.loses(2, 1);
-        same("a lost one can't part them", bestRow(x), "01");
+        same("a lost one can't part them", Checks.bestRow(x), "01");
         due("near then", x.best(-2), 1);
         due("two stand", x.best(-1), 2);
         due("no third", x.best(2), NONE);
         x.undo();
         x.floods(2, 1);
-        same("on the ground as it is now", bestRow(x), "021");
+        same("on the ground as it is now", Checks.bestRow(x), "021");
         due("the last cell now", x.best(-3), 3);
         WalkingStreets low = Checks.town("c2 1;c1 1;gfrfff;");
-        same("the last cell is one lower", bestRow(low), "10");
+        same("the last cell is one lower", Checks.bestRow(low), "10");
         due("all stand either way", low.best(-1), 2);
         due("it is", low.best(-3), 3);
         WalkingStreets y = Checks.town("c2 1;c1 1;gfrff;");
-        same("one more stands so", bestRow(y), "10");
+        same("one more stands so", Checks.bestRow(y), "10");
         due("that is", y.best(-3), 3);
         y.widens(1);
-        same("as wide as now", bestRow(y), "01");
+        same("as wide as now", Checks.bestRow(y), "01");
         due("one stands now", y.best(-1), 1);
     }
 
     private void bestOfSomeOut() {
         WalkingStreets x = Checks.town("c3 1;c2 1;c2 1;c1 1;q1 2;d9;gffff;");
-        same("most stand, then fewest near, then the lowest last cell", bestRow(x), "1302");
+        same("most stand, then fewest near, then the lowest last cell", Checks.bestRow(x), "1302");
         due("two stand", x.best(-1), 2);
         due("not near", x.best(-2), 0);
         due("the last cell", x.best(-3), 2);
         x.floods(3, 1);
-        same("three cells", bestRow(x), "1302");
+        same("three cells", Checks.bestRow(x), "1302");
         due("two stand on three", x.best(-1), 2);
         due("the last of three", x.best(-3), 2);
         x.floods(1, 1);
-        same("one cell and one", bestRow(x), "3012");
+        same("one cell and one", Checks.bestRow(x), "3012");
         due("one stands", x.best(-1), 1);
         due("at", x.best(-3), 0);
         x.floods(0, 1);
         x.floods(2, 1);
-        same("none stands", bestRow(x), "0123");
+        same("none stands", Checks.bestRow(x), "0123");
         due("no one", x.best(-1), 0);
         due("no last cell", x.best(-3), NONE);
         WalkingStreets y = Checks.town("c1 1;c1 1;c1 1;q0 2;q1 2;d1;gfff;");
-        same("a feud on both sides", bestRow(y), "012");
+        same("a feud on both sides", Checks.bestRow(y), "012");
         due("one is near at least", y.best(-2), 1);
-        same("as it is seen again", bestRow(y), "012");
+        same("as it is seen again", Checks.bestRow(y), "012");
         y.loses(2, 1);
-        same("without the last one", bestRow(y), "01");
+        same("without the last one", Checks.bestRow(y), "01");
         due("two stand without it", y.best(-1), 2);
         due("no third one", y.best(2), NONE);
         y.loses(2, 0);
         y.loses(0, 1);
-        same("without the first one", bestRow(y), "12");
+        same("without the first one", Checks.bestRow(y), "12");
         due("two stand without that", y.best(-1), 2);
         WalkingStreets z = Checks.town("c1 1;c2 1;q0 1;d9;gfrff;");
         due("the whole order by numbers", z.best(0), 0);
@@ -1041,7 +1014,7 @@ final class PromiseTests {
         due("only those of the order", x.who(), 1 | 8 | 128);
         x.saw(0, 1);
         due("a lost one stands nowhere", x.who(), 0);
-        same("nothing is changed", row(x), "023");
+        same("nothing is changed", Checks.row(x), "023");
         x.forget();
         x.storm();
         x.saw(2, 0);
@@ -1173,7 +1146,7 @@ final class PromiseTests {
         x.saw(0, 2);
         x.mark(0, 0);
         due("back(0)", x.back(0), 2);
-        same("the order", row(x), "12");
+        same("the order", Checks.row(x), "12");
         due("who is late", x.now(7), 2);
         due("who is lost", x.cart(0, 3), 1);
         due("an axle", x.cart(2, 0), 3);
@@ -1181,20 +1154,20 @@ final class PromiseTests {
         due("what may be undone", x.count(5), 5);
         due("what was seen is not kept", x.count(4), 1);
         due("nor the trace", x.trace(), 1);
-        same("cells", cells(x), "- - 3");
+        same("cells", Checks.cells(x), "- - 3");
         due("undo", x.undo(), 4);
-        same("as ahead of LOST", row(x), "120");
+        same("as ahead of LOST", Checks.row(x), "120");
         due("undo again", x.undo(), 3);
         due("undo the third", x.undo(), 2);
         due("undo the fourth", x.undo(), 1);
         due("undo the fifth", x.undo(), 0);
-        same("as told", row(x), "012");
+        same("as told", Checks.row(x), "012");
         x.storm();
         due("the image is as it was", x.back(0), 2);
         due("with all that may be undone", x.count(5), 5);
         due("undo of the image", x.undo(), 4);
         due("back twice", x.back(0), 2);
-        same("the order again", row(x), "12");
+        same("the order again", Checks.row(x), "12");
         WalkingStreets y = Checks.town("c1 1;c1 1;c1 1;");
         y.pin(0);
         y.storm();
@@ -1205,9 +1178,9 @@ final class PromiseTests {
         y.widens(0);
         y.back(1);
         due("undo of what was kept", y.undo(), 1);
-        same("as ahead of STORM", row(y), "120");
+        same("as ahead of STORM", Checks.row(y), "120");
         due("undo of the oldest that was kept", y.undo(), 0);
-        same("as ahead of PIN", row(y), "012");
+        same("as ahead of PIN", Checks.row(y), "012");
         y.back(1);
         for (int i = 0; i < 12; i++) {
             y.pin(y.order(0));
@@ -1216,7 +1189,7 @@ final class PromiseTests {
         due("back to what was kept long ago", y.back(1), 3);
         due("undo of that", y.undo(), 1);
         due("undo of its oldest", y.undo(), 0);
-        same("as ahead of its oldest", row(y), "012");
+        same("as ahead of its oldest", Checks.row(y), "012");
         due("back to a full past", y.back(0), 3);
         due("ten may be undone", y.count(5), 10);
         due("nine then", y.undo(), 9);
