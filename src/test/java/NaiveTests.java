@@ -117,24 +117,29 @@ final class NaiveTests {
         return oneIn(4) ? other.substring(0, upTo(other.length() + 1)) : other.toString();
     }
 
+    /** This one, or once in a while one that is far from all that there is. */
+    private int orFar(int near) {
+        return oneIn(100) ? Checks.FAR[upTo(Checks.FAR.length)] : near;
+    }
+
     /** Mostly one that is there, at times one that is not. */
     private int aCart() {
-        return oneIn(20) ? upTo(10) - 2 : upTo(Math.max(1, real.count(0)));
+        return orFar(oneIn(20) ? upTo(10) - 2 : upTo(Math.max(1, real.count(0))));
     }
 
     private int aCell() {
-        return oneIn(20) ? upTo(44) - 2 : upTo(Math.max(1, real.count(1)));
+        return orFar(oneIn(20) ? upTo(44) - 2 : upTo(Math.max(1, real.count(1))));
     }
 
     private int aFlag() {
-        return oneIn(20) ? upTo(4) - 1 : upTo(2);
+        return orFar(oneIn(20) ? upTo(4) - 1 : upTo(2));
     }
 
     private void change() {
         int c = aCart();
         int is = aFlag();
         int k = aCell();
-        int image = oneIn(10) ? upTo(4) - 1 : upTo(2);
+        int image = orFar(oneIn(10) ? upTo(4) - 1 : upTo(2));
         switch (upTo(14)) {
             case 0:
             case 1:
@@ -175,8 +180,8 @@ final class NaiveTests {
     private void ask(boolean large) {
         int c = aCart();
         int b = aCart();
-        int h = oneIn(10) ? upTo(70) - 4 : 1 + upTo(20);
-        int i = oneIn(10) ? upTo(16) - 6 : upTo(7);
+        int h = orFar(oneIn(10) ? upTo(70) - 4 : 1 + upTo(20));
+        int i = orFar(oneIn(10) ? upTo(16) - 6 : upTo(7));
         switch (upTo(large ? 12 : 14)) {
             case 0:
                 askAllCarts();
@@ -244,7 +249,7 @@ final class NaiveTests {
     }
 
     private void askOdds(int c) {
-        int x = oneIn(10) ? upTo(14) - 2 : upTo(11);
+        int x = orFar(oneIn(10) ? upTo(14) - 2 : upTo(11));
         int real5 = Math.max(real.cart(c, 5), 0);
         int k = oneIn(2) ? aCell() : real5 + upTo(3);
         for (int what = 0; what < (oneIn(10) ? 3 : 2); what++) {
