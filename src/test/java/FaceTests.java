@@ -24,6 +24,9 @@ final class FaceTests {
         "\\bthrow\\b", "\\btry\\b", "\\bcatch\\b", "\\bsynchronized\\b", "\\bassert\\b", "->", "::", "\\bimport\\b",
         "\\bpackage\\b", "\\bhashCode\\b", "\\btoString\\b", "Exact\\b", "\\bThread\\b", "\\bRandom\\b", "nanoTime",
         "currentTimeMillis", "\\bfloat\\b", "\\bdouble\\b"};
+    /** What the class takes of the library; all of it stands in LANGUAGE.md, rule 4. */
+    private static final Set<String> LIBRARY = Set.of("Integer.bitCount", "Long.bitCount", "Math.min",
+        "System.arraycopy");
     private static final int LONGEST_METHOD = 60;
     private static final int MOST_CLASSES = 12;
     private static final int MOST_FIELDS = 20;
@@ -37,7 +40,8 @@ final class FaceTests {
         String source = withoutComments(Files.readString(Path.of("src/main/java/WalkingStreets.java"),
             StandardCharsets.ISO_8859_1));
         words(checks, source);
-        lengths(checks, source);
+        methods(checks, source);
+        library(checks, source);
         checks.end();
     }
 
@@ -127,17 +131,36 @@ final class FaceTests {
         }
     }
 
-    /** A method's first line ends with {, its last is a } as far in. */
-    private static void lengths(Checks checks, String source) {
-        Matcher method = Pattern.compile("(?m)^( {4}| {8})(private|public)[^;=\n]*\\([^;\n]*\\{\n").matcher(source);
+    /**
+     * A method's first line ends with {, its last is a } as far in. A constructor's name begins with a capital; all
+     * that a run makes is made there, so that no number of calls fills the room.
+     */
+    private static void methods(Checks checks, String source) {
+        Matcher method = Pattern.compile("(?m)^( {4}| {8})(?:private|public) [^;=\n]*?(\\w+)\\([^;\n]*\\{\n")
+            .matcher(source);
         int methods = 0;
         while (method.find()) {
             int end = source.indexOf("\n" + method.group(1) + "}", method.start());
-            long lines = source.substring(method.start(), Math.max(end, method.start())).lines().count();
-            checks.holds(method.group().trim() + " " + lines + " lines", end > 0 && lines <= LONGEST_METHOD);
+            String body = source.substring(method.start(), Math.max(end, method.start()));
+            String name = method.group().trim();
+            long lines = body.lines().count();
+            checks.holds(name + " " + lines + " lines", end > 0 && lines <= LONGEST_METHOD);
+            boolean makes = Pattern.compile("\\bnew\\b|\\bclone\\b").matcher(body).find();
+            checks.holds(name + " makes nothing", !makes || Character.isUpperCase(method.group(2).charAt(0)));
             methods++;
         }
         checks.holds("methods found: " + methods, methods > FACE.length);
+    }
+
+    private static void library(Checks checks, String source) {
+        Matcher call = Pattern.compile("\\b(?!WalkingStreets\\b)([A-Z]\\w*[a-z]\\w*\\.\\w+)\\(").matcher(source);
+        int calls = 0;
+        while (call.find()) {
+            checks.holds(call.group(1) + " is taken of the library", LIBRARY.contains(call.group(1)));
+            calls++;
+        }
+        checks.holds("calls of the library found: " + calls, calls > 0);
+        checks.holds("no text is made", !Pattern.compile("\\bString(Builder)?\\b|\"").matcher(source).find());
     }
 
     private FaceTests() {
